@@ -1,0 +1,241 @@
+/** Promises 5 and 26: erase, wouldErase. */
+public final class EraseTest {
+    public static void main(String[] args) {
+        wrongCalls();
+        alone();
+        aloneWithMembers();
+        membersByRetention();
+        everything();
+        takenOutLoseTheirCurrent();
+        circle();
+        deepChain();
+        mostRecords();
+        wouldEraseChangesNothing();
+        Check.end("EraseTest");
+    }
+
+    private static void wrongCalls() {
+        NetworkDatabase x = new NetworkDatabase();
+        int[] noWays = {-1, 3, Integer.MIN_VALUE, Integer.MAX_VALUE};
+        for (int way : noWays) {
+            Check.argument("erase " + way, () -> x.erase(way));
+            Check.index("no record, way " + way, () -> x.wouldErase(0, way));
+        }
+        for (int way = 0; way < 3; way++) {
+            int w = way;
+            Check.state("nothing current, way " + w, () -> x.erase(w));
+        }
+        x.store(0, 0);
+        for (int way : noWays) {
+            Check.argument("erase " + way, () -> x.erase(way));
+            Check.argument("wouldErase " + way, () -> x.wouldErase(0, way));
+        }
+        int[] none = {-1, 1, 60, Integer.MIN_VALUE, Integer.MAX_VALUE};
+        for (int record : none) {
+            Check.index("wouldErase of " + record, () -> x.wouldErase(record, 0));
+        }
+        Check.due("nothing was erased", 1, x::records);
+        x.erase(0);
+        Check.index("an erased record", () -> x.wouldErase(0, 0));
+        Check.state("erase it again", () -> x.erase(0));
+    }
+
+    private static void alone() {
+        NetworkDatabase x = new NetworkDatabase();
+        x.declare(0, 1, 1, true, 0);
+        x.store(0, 0);
+        x.store(1, 1);
+        x.store(1, 2);
+        x.store(1, 3);
+        x.find(2);
+        Check.due("would", 1, () -> x.wouldErase(2, 0));
+        Check.due("a member of a fixed set", 1, () -> x.erase(0));
+        Check.order("the ring is closed", x, 0, 0, 1, 3);
+        Check.currents("its currents are none", x, -1, 0, -1, -1, -1, -1);
+        Check.due("three", 3, x::records);
+        Check.due("it is not found", -1, () -> x.find(2));
+        x.find(1);
+        x.erase(0);
+        x.find(3);
+        x.erase(0);
+        Check.order("no member left", x, 0, 0);
+        x.find(0);
+        Check.due("the owner without members", 1, () -> x.erase(0));
+        Check.due("nothing is left", 0, x::records);
+    }
+
+    private static void aloneWithMembers() {
+        for (int retention = 0; retention < 3; retention++) {
+            NetworkDatabase x = new NetworkDatabase();
+            x.declare(2, 3, 1, true, 0);
+            x.declare(0, 1, 1, true, retention);
+            x.store(0, 0);
+            x.store(1, 0);
+            x.find(0);
+            Check.due("would", -1, () -> x.wouldErase(0, 0));
+            Check.state("an owner with a member", () -> x.erase(0));
+            Check.argument("and no such way", () -> x.erase(3));
+            Check.order("all stays", x, 0, 1, 1);
+            Check.currents("currents stay", x, 0, 0, 1, -1, -1, -1, 0);
+        }
+    }
+
+    /** The record 0 owns 1 to 3 in a fixed, a mandatory and an optional set; 4 to 6 are theirs. */
+    private static NetworkDatabase family() {
+        NetworkDatabase x = new NetworkDatabase();
+        x.declare(0, 1, 1, false, 0);
+        x.declare(0, 1, 1, false, 1);
+        x.declare(0, 1, 1, false, 2);
+        x.declare(1, 2, 1, true, 1);
+        x.store(0, 0);
+        for (int set = 0; set < 3; set++) {
+            x.store(1, set);
+            x.connect(set);
+        }
+        for (int owner = 1; owner < 4; owner++) {
+            x.find(owner);
+            x.store(2, owner);
+        }
+        return x;
+    }
+
+    private static void membersByRetention() {
+        NetworkDatabase x = family();
+        x.find(0);
+        Check.due("would", 5, () -> x.wouldErase(0, 1));
+        Check.due("erase", 5, () -> x.erase(1));
+        Check.due("two are left", 2, x::records);
+        int[] gone = {0, 1, 2, 4, 5};
+        for (int record : gone) {
+            Check.index("gone " + record, () -> x.typeOf(record));
+        }
+        Check.due("the optional member", 1, () -> x.typeOf(3));
+        Check.due("is no member now", -1, () -> x.ownerOf(3, 2));
+        Check.order("and keeps its own", x, 3, 3, 6);
+        Check.currents("currents", x, -1, -1, 3, 6, -1, -1, -1, -1, 6);
+        x.store(0, 0);
+        x.find(3);
+        Check.due("it can be connected", 1, () -> x.connect(2));
+    }
+
+    private static void everything() {
+        NetworkDatabase x = family();
+        x.store(3, 7);
+        x.store(0, 8);
+        x.find(0);
+        Check.due("would", 7, () -> x.wouldErase(0, 2));
+        Check.due("erase", 7, () -> x.erase(2));
+        Check.due("the others are left", 2, x::records);
+        Check.due("of another type", 7, () -> x.valueOf(7));
+        Check.due("another owner", 8, () -> x.valueOf(8));
+        Check.currents("currents", x, -1, -1, -1, -1, 7, -1, -1, -1, -1);
+    }
+
+    private static void takenOutLoseTheirCurrent() {
+        NetworkDatabase x = new NetworkDatabase();
+        x.declare(0, 1, 1, true, 2);
+        x.declare(2, 1, 1, true, 2);
+        x.store(0, 0);
+        x.store(2, 0);
+        x.store(1, 1);
+        x.store(1, 2);
+        x.find(0);
+        x.find(2);
+        // No ring but the first is to lose anything: erase needs its owner, so the member is found again.
+        x.find(0);
+        x.findNext(0, false);
+        x.findOwner(0);
+        Check.due("would", 1, () -> x.wouldErase(0, 1));
+        Check.due("the owner alone", 1, () -> x.erase(1));
+        Check.due("first is out", -1, () -> x.ownerOf(2, 0));
+        Check.due("second is out", -1, () -> x.ownerOf(3, 0));
+        Check.order("the other set stays", x, 1, 1, 2, 3);
+        Check.currents("currents", x, -1, -1, 2, 1, -1, -1, 2);
+
+        NetworkDatabase y = new NetworkDatabase();
+        y.declare(0, 1, 1, false, 0);
+        y.declare(1, 2, 1, false, 2);
+        y.store(0, 0);
+        y.store(1, 0);
+        y.connect(0);
+        y.store(2, 0);
+        y.connect(1);
+        y.store(2, 0);
+        y.connect(1);
+        y.find(0);
+        Check.due("the member's member is current", 3, () -> y.currentIn(1));
+        Check.due("erase owner and member", 2, () -> y.erase(1));
+        Check.due("it is none then", -1, () -> y.currentIn(1));
+        Check.due("of its type it is still", 3, () -> y.currentOf(2));
+        Check.due("and it stays", 2, () -> y.typeOf(3));
+        Check.state("no current set", () -> { y.find(2); return y.connect(1); });
+    }
+
+    private static void circle() {
+        for (int retention = 0; retention < 3; retention++) {
+            NetworkDatabase x = new NetworkDatabase();
+            x.declare(0, 1, 1, false, 0);
+            x.declare(1, 0, 1, false, retention);
+            x.store(0, 0);
+            x.store(1, 0);
+            x.connect(0);
+            x.find(0);
+            x.connect(1);
+            Check.due("each owns the other", 1, () -> x.ownerOf(0, 1));
+            Check.due("alone", -1, () -> x.wouldErase(0, 0));
+            Check.due("each once, way 1", 2, () -> x.wouldErase(0, 1));
+            Check.due("each once, way 2", 2, () -> x.wouldErase(1, 2));
+            Check.due("from the other side", retention == 2 ? 1 : 2, () -> x.wouldErase(1, 1));
+            x.find(1);
+            Check.due("erase", retention == 2 ? 1 : 2, () -> x.erase(1));
+            Check.due("left", retention == 2 ? 1 : 0, x::records);
+        }
+    }
+
+    private static void deepChain() {
+        NetworkDatabase x = new NetworkDatabase();
+        x.declare(0, 1, 1, true, 1);
+        x.declare(1, 0, 1, false, 0);
+        x.store(0, 0);
+        for (int record = 1; record < 60; record++) {
+            x.store(record % 2, record);
+            if (record % 2 == 0) {
+                x.connect(1);
+            }
+        }
+        Check.due("a chain of sixty", 60, () -> x.wouldErase(0, 1));
+        Check.due("from its middle", 30, () -> x.wouldErase(30, 2));
+        x.find(30);
+        Check.due("erase its end", 30, () -> x.erase(1));
+        Check.due("the rest", 30, () -> x.wouldErase(0, 2));
+        Check.order("its last owner", x, 29, 1);
+    }
+
+    private static void mostRecords() {
+        NetworkDatabase x = new NetworkDatabase();
+        x.declare(0, 1, 0, true, 2);
+        x.store(0, 0);
+        for (int record = 1; record < 60; record++) {
+            x.store(1, record);
+        }
+        x.find(0);
+        Check.due("the owner alone", 1, () -> x.wouldErase(0, 1));
+        Check.due("all", 60, () -> x.wouldErase(0, 2));
+        Check.due("erase all", 60, () -> x.erase(2));
+        Check.due("none", 0, x::records);
+    }
+
+    private static void wouldEraseChangesNothing() {
+        NetworkDatabase x = family();
+        for (int way = 0; way < 3; way++) {
+            for (int record = 0; record < 7; record++) {
+                x.wouldErase(record, way);
+            }
+        }
+        Check.due("seven", 7, x::records);
+        Check.currents("currents", x, 6, 0, 3, 6, -1, 1, 2, 3, 6);
+        Check.order("fixed", x, 0, 0, 1);
+        Check.order("optional", x, 0, 2, 3);
+        Check.order("below", x, 2, 3, 5);
+    }
+}
