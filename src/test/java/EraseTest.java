@@ -6,7 +6,8 @@ public final class EraseTest {
         aloneWithMembers();
         membersByRetention();
         everything();
-        takenOutLoseTheirCurrent();
+        takenOutLoseTheirSet();
+        currentBelowAnErasedMember();
         circle();
         deepChain();
         mostRecords();
@@ -131,7 +132,7 @@ public final class EraseTest {
         Check.currents("currents", x, -1, -1, -1, -1, 7, -1, -1, -1, -1);
     }
 
-    private static void takenOutLoseTheirCurrent() {
+    private static void takenOutLoseTheirSet() {
         NetworkDatabase x = new NetworkDatabase();
         x.declare(0, 1, 1, true, 2);
         x.declare(2, 1, 1, true, 2);
@@ -139,19 +140,17 @@ public final class EraseTest {
         x.store(2, 0);
         x.store(1, 1);
         x.store(1, 2);
-        x.find(0);
         x.find(2);
-        // No ring but the first is to lose anything: erase needs its owner, so the member is found again.
         x.find(0);
-        x.findNext(0, false);
-        x.findOwner(0);
         Check.due("would", 1, () -> x.wouldErase(0, 1));
         Check.due("the owner alone", 1, () -> x.erase(1));
         Check.due("first is out", -1, () -> x.ownerOf(2, 0));
         Check.due("second is out", -1, () -> x.ownerOf(3, 0));
         Check.order("the other set stays", x, 1, 1, 2, 3);
         Check.currents("currents", x, -1, -1, 2, 1, -1, -1, 2);
+    }
 
+    private static void currentBelowAnErasedMember() {
         NetworkDatabase y = new NetworkDatabase();
         y.declare(0, 1, 1, false, 0);
         y.declare(1, 2, 1, false, 2);
@@ -168,7 +167,8 @@ public final class EraseTest {
         Check.due("it is none then", -1, () -> y.currentIn(1));
         Check.due("of its type it is still", 3, () -> y.currentOf(2));
         Check.due("and it stays", 2, () -> y.typeOf(3));
-        Check.state("no current set", () -> { y.find(2); return y.connect(1); });
+        y.find(2);
+        Check.state("no current set", () -> y.connect(1));
     }
 
     private static void circle() {

@@ -92,12 +92,12 @@ public final class InsertionTest {
             NetworkDatabase x = new NetworkDatabase();
             x.declare(0, 1, insertion, false, 1);
             x.store(0, 0);
-            // What is connected as the last one is laid first where the insertion is at the front.
             int[] records = {1, 2, 3, 4};
             for (int record : records) {
                 x.store(1, record);
             }
             x.find(0);
+            // At the front the last one connected is the first one, so that these go in backwards.
             boolean backwards = insertion == 0 || insertion == 3;
             for (int step = 0; step < 4; step++) {
                 x.find(records[backwards ? 3 - step : step]);
