@@ -38,13 +38,20 @@ final class Check {
         }
     }
 
-    /** The answer as text, or the exact class of what was thrown. */
+    /** The answer as text, or the exact class of what was thrown, with a mark if a library call threw it. */
     static String outcome(IntSupplier answer) {
         try {
             return String.valueOf(answer.getAsInt());
         } catch (RuntimeException e) {
-            return "throws." + e.getClass().getSimpleName();
+            return (isOfTheLibrary(e) ? "library." : "throws.") + e.getClass().getSimpleName();
         }
+    }
+
+    /** A list's get throws what the document names too, and yet no call may ever throw by itself. */
+    private static boolean isOfTheLibrary(RuntimeException e) {
+        StackTraceElement[] trace = e.getStackTrace();
+        String thrower = trace.length == 0 ? "" : trace[0].getClassName();
+        return thrower.startsWith("java.") || thrower.startsWith("jdk.");
     }
 
     /** The members of a set in their order, asked place by place. */

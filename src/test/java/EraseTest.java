@@ -12,6 +12,13 @@ public final class EraseTest {
         deepChain();
         mostRecords();
         wouldEraseChangesNothing();
+        eachWayAndRetention();
+        eachWayOfAnEmptySet();
+        inTheSameWayBelow();
+        severalSetsOfOneOwner();
+        memberOfAKeptAndAnErasedOwner();
+        ownMembershipOfAnyRetention();
+        asManyAsWouldBe();
         Check.end("EraseTest");
     }
 
@@ -237,5 +244,132 @@ public final class EraseTest {
         Check.order("fixed", x, 0, 0, 1);
         Check.order("optional", x, 0, 2, 3);
         Check.order("below", x, 2, 3, 5);
+    }
+
+    /** The three ways by the three retentions, of an owner with one member. */
+    private static void eachWayAndRetention() {
+        for (int retention = 0; retention < 3; retention++) {
+            Scene pair = new Scene("declare(0, 1, 1, true, " + retention + "); store(0, 0); store(1, 0); find(0)");
+            pair.state("erase(0)");
+            pair.asks("wouldErase(0, 0)", -1);
+            boolean stays = retention == 2;
+            pair.due("erase(1)", stays ? 1 : 2);
+            pair.asks("wouldErase(0, 1)", stays ? 1 : 2);
+            Scene first = pair.then("erase(1)");
+            first.due("records()", stays ? 1 : 0);
+            if (stays) {
+                first.asks("typeOf(1)", 1);
+                first.asks("ownerOf(1, 0)", -1);
+                first.currents(-1, -1, 1, -1, -1, -1);
+            } else {
+                first.index("typeOf(1)");
+                first.currents(-1, -1, -1, -1, -1, -1);
+            }
+            pair.due("erase(2)", 2);
+            pair.asks("wouldErase(0, 2)", 2);
+            pair.then("erase(2)").due("records()", 0);
+            pair.then("erase(2)").currents(-1, -1, -1, -1, -1, -1);
+        }
+    }
+
+    private static void eachWayOfAnEmptySet() {
+        for (int retention = 0; retention < 3; retention++) {
+            Scene empty = new Scene("declare(0, 1, 1, false, " + retention + "); store(0, 0); store(1, 0); find(0)");
+            for (int way = 0; way < 3; way++) {
+                empty.due("erase(" + way + ")", 1);
+                empty.asks("wouldErase(0, " + way + ")", 1);
+                empty.then("erase(" + way + ")").currents(-1, -1, 1, -1, -1, -1);
+                empty.then("erase(" + way + ")").due("records()", 1);
+            }
+        }
+    }
+
+    /** "erased in the same way": what holds of the owner's members holds of theirs, by their own retention. */
+    private static void inTheSameWayBelow() {
+        for (int upper = 0; upper < 3; upper++) {
+            for (int lower = 0; lower < 3; lower++) {
+                Scene chain = new Scene("declare(0, 1, 1, true, " + upper + "); declare(1, 2, 1, true, " + lower
+                    + "); store(0, 0); store(1, 0); store(2, 0); find(0)");
+                int due = upper == 2 ? 1 : lower == 2 ? 2 : 3;
+                chain.due("erase(1)", due);
+                chain.asks("wouldErase(0, 1)", due);
+                chain.asks("wouldErase(0, 2)", 3);
+                chain.asks("wouldErase(0, 0)", -1);
+                chain.asks("wouldErase(1, 1)", lower == 2 ? 1 : 2);
+                chain.then("erase(1)").due("records()", 3 - due);
+                chain.then("erase(2)").due("records()", 0);
+                if (upper == 2) {
+                    chain.then("erase(1)").ring(1, 1, 2);
+                    chain.then("erase(1)").currents(-1, -1, 1, 2, -1, -1, 2);
+                } else if (lower == 2) {
+                    chain.then("erase(1)").asks("ownerOf(2, 1)", -1);
+                    chain.then("erase(1)").currents(-1, -1, -1, 2, -1, -1, -1);
+                }
+            }
+        }
+    }
+
+    /** Sets of each retention, of one owner: one member is erased, another one of the next set is taken out. */
+    private static void severalSetsOfOneOwner() {
+        Scene scene = new Scene("declare(0, 1, 1, false, 2); declare(0, 1, 1, false, 1); declare(0, 2, 1, false, 2); declare(0, 3, 1, false, 0);"
+            + "store(0, 0); store(1, 1); connect(0); store(1, 2); connect(1); store(2, 3); connect(2); store(3, 4); connect(3);"
+            + "store(1, 5); connect(0); find(0)");
+        scene.asks("wouldErase(0, 1)", 3);
+        scene.due("erase(1)", 3);
+        Scene left = scene.then("erase(1)");
+        left.none("find(0)", "find(2)", "find(4)", "ownerOf(1, 0)", "ownerOf(5, 0)", "ownerOf(3, 2)");
+        left.due("records()", 3);
+        left.currents(-1, -1, 5, 3, -1, -1, -1, -1, -1);
+        scene.due("erase(2)", 6);
+    }
+
+    /** A member of an optional set that is erased, as it is a member of a fixed one too, whichever comes first. */
+    private static void memberOfAKeptAndAnErasedOwner() {
+        for (int optional = 0; optional < 2; optional++) {
+            Scene both = new Scene("declare(0, 1, 1, true, " + (optional == 0 ? 2 : 0) + "); declare(0, 1, 1, true, " + (optional == 0 ? 0 : 2)
+                + "); store(0, 0); store(1, 0); store(1, 0); find(0)");
+            both.asks("wouldErase(0, 1)", 3);
+            both.due("erase(1)", 3);
+            both.then("erase(1)").due("records()", 0);
+        }
+        // The owner 1 stays, and its ring closes round the member that is erased with the owner 0.
+        Scene other = new Scene("declare(0, 2, 1, true, 1); declare(1, 2, 1, true, 0); store(0, 0); store(1, 0); store(2, 0); store(0, 0);"
+            + "store(2, 0); find(1); find(0)");
+        other.due("erase(1)", 2);
+        other.then("erase(1)").ring(1, 1, 4);
+        other.then("erase(1)").ring(3, 0, 4);
+        other.then("erase(1)").currents(-1, -1, 1, 4, -1, -1, 1);
+    }
+
+    /** What a record is a member of does not keep it from being erased, in any way. */
+    private static void ownMembershipOfAnyRetention() {
+        for (int retention = 0; retention < 3; retention++) {
+            Scene member = new Scene("declare(0, 1, 1, true, " + retention + "); store(0, 0); store(1, 0)");
+            for (int way = 0; way < 3; way++) {
+                member.due("erase(" + way + ")", 1);
+                member.asks("wouldErase(1, " + way + ")", 1);
+                member.then("erase(" + way + ")").ring(0, 0);
+                member.then("erase(" + way + ")").currents(-1, 0, -1, -1, -1, -1);
+            }
+        }
+    }
+
+    /** erase "Returns how many records are erased", and wouldErase says it ahead, of the current record and of others. */
+    private static void asManyAsWouldBe() {
+        Scene scene = new Scene("declare(0, 1, 1, false, 0); declare(0, 1, 1, false, 1); declare(0, 1, 1, false, 2); declare(1, 2, 1, true, 1);"
+            + "store(0, 0); store(1, 0); connect(0); store(1, 1); connect(1); store(1, 2); connect(2); find(1); store(2, 1); find(2); store(2, 2); find(3); store(2, 3)");
+        int[][] due = {{-1, 5, 7}, {-1, 2, 2}, {-1, 2, 2}, {-1, 2, 2}, {1, 1, 1}, {1, 1, 1}, {1, 1, 1}};
+        for (int record = 0; record < 7; record++) {
+            Scene found = scene.then("find(" + record + ")");
+            for (int way = 0; way < 3; way++) {
+                scene.asks("wouldErase(" + record + ", " + way + ")", due[record][way]);
+                if (due[record][way] == -1) {
+                    found.state("erase(" + way + ")");
+                } else {
+                    found.due("erase(" + way + ")", due[record][way]);
+                    found.then("erase(" + way + ")").due("records()", 7 - due[record][way]);
+                }
+            }
+        }
     }
 }

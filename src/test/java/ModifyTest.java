@@ -7,6 +7,12 @@ public final class ModifyTest {
         sameValueGoesBehindItsEquals();
         severalSetTypes();
         otherInsertionsStay();
+        setOfOneMember();
+        eachPlaceToEachPlace();
+        equalValues();
+        edgesOfValues();
+        ownerOfASortedSet();
+        noMemberOfASortedSet();
         Check.end("ModifyTest");
     }
 
@@ -104,5 +110,66 @@ public final class ModifyTest {
             x.modify(99);
             Check.order("insertion " + insertion, x, 0, 0, before);
         }
+    }
+
+    private static void setOfOneMember() {
+        Scene one = new Scene("declare(0, 1, 4, true, 2); store(0, 0); store(1, 10)");
+        for (int value : new int[] {-1000, 9, 10, 11, 1000}) {
+            one.due("modify(" + value + ")", 10);
+            Scene changed = one.then("modify(" + value + ")");
+            changed.ring(0, 0, 1);
+            changed.asks("valueOf(1)", value);
+            changed.currents(1, 0, 1, -1, -1, 1);
+        }
+    }
+
+    /** From the first, the middle and the last place to each other one, and to none. */
+    private static void eachPlaceToEachPlace() {
+        Scene three = new Scene("declare(0, 1, 4, true, 2); store(0, 0); store(1, 10); store(1, 20); store(1, 30)");
+        int[] values = {5, 15, 25, 35};
+        int[][][] due = {{{1, 2, 3}, {1, 2, 3}, {2, 1, 3}, {2, 3, 1}}, {{2, 1, 3}, {1, 2, 3}, {1, 2, 3}, {1, 3, 2}},
+            {{3, 1, 2}, {1, 3, 2}, {1, 2, 3}, {1, 2, 3}}};
+        for (int record = 1; record < 4; record++) {
+            for (int place = 0; place < 4; place++) {
+                three.then("find(" + record + "); modify(" + values[place] + ")").ring(0, 0, due[record - 1][place]);
+            }
+        }
+    }
+
+    /** "inserted anew into the same set (also if the value is the one that it had)": behind all of the same value. */
+    private static void equalValues() {
+        Scene same = new Scene("declare(0, 1, 4, true, 2); store(0, 0); store(1, 10); store(1, 10); store(1, 10)");
+        same.then("find(1); modify(10)").ring(0, 0, 2, 3, 1);
+        same.then("find(2); modify(10)").ring(0, 0, 1, 3, 2);
+        same.then("find(3); modify(10)").ring(0, 0, 1, 2, 3);
+        same.then("find(2)").due("modify(10)", 10);
+    }
+
+    private static void edgesOfValues() {
+        Scene edges = new Scene("declare(0, 1, 4, true, 2); store(0, 0); store(1, 1000); store(1, -1000); store(1, 0)");
+        edges.ring(0, 0, 2, 3, 1);
+        edges.then("modify(1000)").ring(0, 0, 2, 1, 3);
+        edges.then("modify(-1000)").ring(0, 0, 2, 3, 1);
+        edges.then("modify(999)").ring(0, 0, 2, 3, 1);
+        edges.then("find(1); modify(-1000)").ring(0, 0, 2, 1, 3);
+    }
+
+    /** The owner is no member: its set stays as it is, and so does the set of another owner. */
+    private static void ownerOfASortedSet() {
+        Scene two = new Scene("declare(0, 1, 4, true, 2); store(0, 5); store(1, 10); store(1, 20); store(0, 6); store(1, 15); find(0)");
+        two.due("modify(1000)", 5);
+        two.then("modify(1000)").ring(0, 0, 1, 2);
+        two.then("modify(1000)").ring(3, 0, 4);
+        two.then("find(4); modify(1)").ring(0, 0, 1, 2);
+        two.then("find(4); modify(1)").ring(3, 0, 4);
+    }
+
+    private static void noMemberOfASortedSet() {
+        Scene apart = new Scene("declare(0, 1, 4, false, 2); declare(0, 1, 1, true, 2); store(0, 0); store(1, 10); store(1, 5)");
+        apart.then("modify(20)").ring(0, 0);
+        apart.then("modify(20)").ring(0, 1, 1, 2);
+        apart.then("find(1); modify(1)").ring(0, 1, 1, 2);
+        apart.then("modify(20)").asks("ownerOf(2, 0)", -1);
+        apart.then("modify(20)").asks("valueOf(1)", 10);
     }
 }
